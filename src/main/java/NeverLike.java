@@ -10,7 +10,7 @@ public final class NeverLike {
     private static final int HOUSES_MOST = 6, COLOURS_MOST = 5, TOWNS_MOST = 4096;
     private static final int SPRING_MOST = 999, FEE_MOST = 999, JOY_MOST = 99;
     private static final int PAINTERS_MOST = 5, KINDS = 6, NUMBER_MOST = 9;
-    private static final int TEXTS_MOST = 6, TAPE_MOST = 160, OPEN_MOST = 5;
+    private static final int TEXTS_MOST = 6, TAPE_MOST = 160, OPEN_MOST = 5, DIGITS_MOST = 4;
     private static final int SHEETS = 4, SORTS = 3, SHEET_MOST = 40, PAINTS_MOST = 20, DRAWN_MOST = 200;
 
     /** A STEP as a number is this times the HOUSE, and the COLOUR, however many COLOURS there are. */
@@ -23,8 +23,8 @@ public final class NeverLike {
     private static final int OR = 6, AND = 7, NOT = 8, LESS = 9, LIKE = 10, PLUS = 11, MINUS = 12, TIMES = 13;
     private static final int NEGATE = 14;
     private static final int MAY = 15, FEE = 16, JOY = 17, OPEN = 18, CLOSE = 19, STOP = 20;
-    private static final int NUMBER = 21, END = 22, NOTHING = 23;
-    /** A number n stands in a TEXT's code as this and n. */
+    private static final int END = 21, NOTHING = 22;
+    /** A NUMBER is this and its value, as a TOKEN and in a TEXT's code. */
     private static final int NUMBERS = 32;
 
     // The levels of an E, the loosest first.
@@ -761,7 +761,6 @@ public final class NeverLike {
             super(number);
         }
 
-        @Override
         int costs(int house, int f, int t) {
             return super.costs(house, f, t) * (house + 1);
         }
@@ -772,12 +771,10 @@ public final class NeverLike {
             super(number);
         }
 
-        @Override
         int costs(int house, int f, int t) {
             return super.costs(house, f, t) + 3;
         }
 
-        @Override
         boolean will(int house, int f, int t) {
             return house != number % 6;
         }
@@ -788,12 +785,10 @@ public final class NeverLike {
             super(number);
         }
 
-        @Override
         int costs(int house, int f, int t) {
             return super.costs(house, f, t) - t * number;
         }
 
-        @Override
         boolean will(int house, int f, int t) {
             return t != number % 5;
         }
@@ -804,7 +799,6 @@ public final class NeverLike {
             super(number);
         }
 
-        @Override
         int costs(int house, int f, int t) {
             return super.costs(house, f, t) / 2;
         }
@@ -815,12 +809,10 @@ public final class NeverLike {
             super(number);
         }
 
-        @Override
         int costs(int house, int f, int t) {
             return super.costs(house, f, t) + f;
         }
 
-        @Override
         boolean will(int house, int f, int t) {
             return super.will(house, f, t) && t != f - 1;
         }
@@ -905,11 +897,11 @@ public final class NeverLike {
     private static final class Reader {
         private final int[] tape = new int[TAPE_MOST];
         private int size;
-        /** The first byte of the TOKEN, and the one behind its last. */
-        private int place;
-        private int next;
+        /** The TOKENS of THE TAPE and their places, and one more that ends them. */
+        private final int[] tokens = new int[TAPE_MOST + 1];
+        private final int[] places = new int[TAPE_MOST + 1];
+        private int at;
         private int token;
-        private int number;
         private int fault;
         /** Every TOKEN gives one word at most, so the code is never longer than THE TAPE. */
         private final int[] code = new int[TAPE_MOST];
@@ -930,10 +922,11 @@ public final class NeverLike {
 
         /** The TEXT, and THE TAPE is empty; null: there is a FAULT. */
         Text read() {
-            next = 0;
+            splitTape();
             fault = NONE;
             written = 0;
-            advance();
+            at = 0;
+            token = tokens[0];
             readClause(MAY);
             int mayEnd = written;
             readClause(FEE);
@@ -965,10 +958,17 @@ public final class NeverLike {
             }
         }
 
+        private void advance() {
+            if (at < TAPE_MOST && token != END) {
+                at++;
+                token = tokens[at];
+            }
+        }
+
         /** Only the first FAULT counts; NOTHING stands nowhere, so what is open ends without reading on. */
         private void fail() {
             if (fault == NONE) {
-                fault = place;
+                fault = places[at];
             }
             token = NOTHING;
         }
@@ -980,6 +980,7 @@ public final class NeverLike {
             }
         }
 
+        /** An E from one of its levels down; open tells how many ( not - stand open around it. */
         private void readLevel(int level, int open) {
             if (level == NOT_LEVEL) {
                 readNot(open);
@@ -1029,8 +1030,8 @@ public final class NeverLike {
         }
 
         private void readOne(int open) {
-            if (token == NUMBER || token >= 0 && token < NAMES) {
-                write(token == NUMBER ? NUMBERS + number : token);
+            if (token < NAMES || token >= NUMBERS) {
+                write(token);
                 advance();
             } else if (token == MINUS) {
                 if (opens(open)) {
@@ -1057,94 +1058,108 @@ public final class NeverLike {
             return true;
         }
 
-        private void advance() {
-            place = next;
-            while (place < size && (tape[place] == 32 || tape[place] == 10)) {
-                place++;
+        private void splitTape() {
+            int count = 0;
+            int i = 0;
+            while (i < size) {
+                int end = endOf(i);
+                if (tape[i] != ' ' && tape[i] != '\n') {
+                    places[count] = i;
+                    tokens[count] = tokenOf(i, end);
+                    count++;
+                }
+                i = end;
             }
-            next = place + 1;
-            if (place >= size) {
-                token = END;
-            } else if (isLetter(place)) {
-                readWord();
-            } else if (isDigit(place)) {
-                readNumber();
-            } else {
-                token = signOf(tape[place]);
-            }
+            places[count] = size;
+            tokens[count] = END;
         }
 
-        private boolean isLetter(int i) {
-            return i < size && tape[i] >= 'a' && tape[i] <= 'z';
-        }
-
-        private boolean isDigit(int i) {
-            return i < size && tape[i] >= '0' && tape[i] <= '9';
-        }
-
-        private void readNumber() {
-            number = tape[place] - '0';
-            while (isDigit(next)) {
-                number = number * 10 + tape[next] - '0';
-                next++;
+        /** The place behind what begins at a place: a WORD, a NUMBER, or one byte. */
+        private int endOf(int begin) {
+            int end = begin + 1;
+            if (isLetter(tape[begin])) {
+                while (end < size && isLetter(tape[end])) {
+                    end++;
+                }
+            } else if (isDigit(tape[begin])) {
+                while (end < size && isDigit(tape[end])) {
+                    end++;
+                }
             }
-            token = next - place <= 4 ? NUMBER : NOTHING;
+            return end;
         }
 
-        private void readWord() {
-            while (isLetter(next)) {
-                next++;
-            }
-            token = keyOf();
-            if (token == NOTHING) {
-                token = nameOf();
-            }
+        private static boolean isLetter(int letter) {
+            return letter >= 'a' && letter <= 'z';
         }
 
-        private int keyOf() {
-            if (isWord("may")) {
+        private static boolean isDigit(int letter) {
+            return letter >= '0' && letter <= '9';
+        }
+
+        private int tokenOf(int begin, int end) {
+            if (isLetter(tape[begin])) {
+                int key = keyOf(begin, end);
+                return key == NOTHING ? nameOf(begin, end) : key;
+            }
+            return isDigit(tape[begin]) ? numberOf(begin, end) : signOf(tape[begin]);
+        }
+
+        private int numberOf(int begin, int end) {
+            if (end - begin > DIGITS_MOST) {
+                return NOTHING;
+            }
+            int number = 0;
+            for (int i = begin; i < end; i++) {
+                number = number * 10 + tape[i] - '0';
+            }
+            return NUMBERS + number;
+        }
+
+        private int keyOf(int begin, int end) {
+            if (isWord("may", begin, end)) {
                 return MAY;
             }
-            if (isWord("fee")) {
+            if (isWord("fee", begin, end)) {
                 return FEE;
             }
-            if (isWord("joy")) {
+            if (isWord("joy", begin, end)) {
                 return JOY;
             }
-            if (isWord("or")) {
+            if (isWord("or", begin, end)) {
                 return OR;
             }
-            if (isWord("and")) {
+            if (isWord("and", begin, end)) {
                 return AND;
             }
-            return isWord("not") ? NOT : NOTHING;
+            return isWord("not", begin, end) ? NOT : NOTHING;
         }
 
-        private int nameOf() {
-            if (isWord("from")) {
+        private int nameOf(int begin, int end) {
+            if (isWord("from", begin, end)) {
                 return FROM;
             }
-            if (isWord("to")) {
+            if (isWord("to", begin, end)) {
                 return TO;
             }
-            if (isWord("near")) {
+            if (isWord("near", begin, end)) {
                 return NEAR;
             }
-            if (isWord("spring")) {
+            if (isWord("spring", begin, end)) {
                 return SPRING;
             }
-            if (isWord("kept")) {
+            if (isWord("kept", begin, end)) {
                 return KEPT;
             }
-            return isWord("house") ? HOUSE : NOTHING;
+            return isWord("house", begin, end) ? HOUSE : NOTHING;
         }
 
-        private boolean isWord(String word) {
-            if (next - place != word.length()) {
+        private boolean isWord(String word, int begin, int end) {
+            if (end - begin != word.length()) {
                 return false;
             }
             for (int i = 0; i < word.length(); i++) {
-                if (tape[place + i] != word.charAt(i)) {
+                if (tape[begin + i] != word.charAt(i)) {
                     return false;
                 }
             }
@@ -1292,7 +1307,7 @@ public final class NeverLike {
 
         /** No cheapest row comes to a TOWN twice, so as many rounds as TOWNS are enough. */
         private void findCosts() {
-            if (knowsCosts) {
+            if (knowsCosts || start == NONE) {
                 return;
             }
             for (int i = 0; i < town.towns; i++) {
@@ -1423,8 +1438,9 @@ public final class NeverLike {
             return best;
         }
 
+        /** Asked only of a TOWN that can be come to, and behind mostWorth(), which finds all CHEAPEST. */
         int worthOf(int number, int[] joys) {
-            int worth = -costTo(number);
+            int worth = -cost[number];
             lookAt(number);
             for (int house = 0; house < town.houses; house++) {
                 if (colour[house] == town.wish[house]) {
@@ -1435,6 +1451,7 @@ public final class NeverLike {
         }
 
         int mostWorth(int[] joys) {
+            findCosts();
             int best = start;
             int most = worthOf(start, joys);
             for (int i = 0; i < found; i++) {
