@@ -65,6 +65,17 @@ public final class OracleTest {
             return new E(signs[r.nextInt(7)], 0, random(r, left), random(r, size - left));
         }
 
+        /** Like for nearly all steps, but for a few of them other ones: so the cheapest rows are seldom the shortest. */
+        static E randomTable(Random r, int most, int c, int terms) {
+            E all = new E("", most);
+            for (int i = 0; i < terms; i++) {
+                E from = new E("=", 0, new E("from", 0), new E("", r.nextInt(c)));
+                E to = new E("=", 0, new E("to", 0), new E("", r.nextInt(c)));
+                all = new E("-", 0, all, new E("*", 0, new E("*", 0, new E("", r.nextInt(most + 1)), from), to));
+            }
+            return all;
+        }
+
         int value(int[] names) {
             int a = parts.length > 0 ? parts[0].value(names) : 0;
             int b = parts.length > 1 ? parts[1].value(names) : 0;
@@ -134,8 +145,10 @@ public final class OracleTest {
 
         Written(Random random) {
             this.random = random;
-            may = E.random(random, 1 + random.nextInt(9));
-            fee = E.random(random, 1 + random.nextInt(9));
+            boolean table = random.nextInt(3) == 0;
+            int c = 2 + random.nextInt(4);
+            may = table ? E.randomTable(random, 1, c, random.nextInt(2)) : E.random(random, 1 + random.nextInt(9));
+            fee = table ? E.randomTable(random, 99, c, 1 + random.nextInt(4)) : E.random(random, 1 + random.nextInt(9));
             joy = E.random(random, 1 + random.nextInt(5));
             clause("may", may);
             clause("fee", fee);

@@ -169,7 +169,7 @@ public final class StepTest {
     }
 
     private static void cheapest() {
-        NeverLike x = Check.ruledBy("may 1;fee 10*(to=2)+(to=1)+2*(to=3)+(from=3)*to*to*0;joy 0;");
+        NeverLike x = Check.ruledBy("may 1;fee 10*(to=2)+(to=1)+2*(to=3);joy 0;");
         x.build(1, 4);
         Check.due("cheapest to itself", x.cheapest(0), 0);
         Check.due("cheapest(2)", x.cheapest(2), 10);
@@ -177,6 +177,10 @@ public final class StepTest {
         y.build(1, 5);
         Check.due("many cheap STEPS", y.cheapest(4), 400);
         Check.due("shortest", y.shortest(4), 1);
+        NeverLike w = Check.ruledBy("may 1;fee 900-899*(to=from-1 or from=0 and to=4);joy 0;");
+        w.build(1, 5);
+        Check.due("by the dearest number and down", w.cheapest(1), 4);
+        Check.due("by the dearest number and down", w.cheapest(2), 3);
         NeverLike z = Check.ruledBy("may to = from + 1;fee 7;joy 0;");
         z.build(1, 3);
         Check.due("cheapest(2)", z.cheapest(2), 14);

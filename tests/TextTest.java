@@ -4,6 +4,7 @@ public final class TextTest {
         feed();
         text();
         faults();
+        words();
         open();
         force();
         values();
@@ -109,6 +110,32 @@ public final class TextTest {
         fault("may 1 - - 2 - - - 3" + rest, -1);
         fault("may 1;fee;joy 0;", 9);
         fault("may 1;fee 0;joy $;", 16);
+    }
+
+    /** Each word with its first, a middle or its last letter another one, or with one more, is none. */
+    private static void words() {
+        String[] names = {"from", "to", "near", "spring", "kept", "house"};
+        for (String name : names) {
+            fault("may " + name + ";fee 0;joy 0;", -1);
+            fault("may z" + name.substring(1) + ";fee 0;joy 0;", 4);
+            fault("may " + name.substring(0, name.length() - 1) + "z;fee 0;joy 0;", 4);
+            fault("may " + name + "z;fee 0;joy 0;", 4);
+            fault("may " + name.substring(1) + ";fee 0;joy 0;", 4);
+        }
+        String[] wrong = {"xay 1", "mxy 1", "max 1", "mayz 1", "zmay 1", "gee 1", "boy 1"};
+        for (String w : wrong) {
+            fault(w + ";fee 0;joy 0;", 0);
+        }
+        fault("may 1;gee 0;joy 0;", 6);
+        fault("may 1;fee 0;toy 0;", 12);
+        fault("may 1;fez 0;joy 0;", 6);
+        fault("may 1;fee 0;jov 0;", 12);
+        fault("may 1 er 2;fee 0;joy 0;", 6);
+        fault("may 1 on 2;fee 0;joy 0;", 6);
+        fault("may 1 end 2;fee 0;joy 0;", 6);
+        fault("may 1 any 2;fee 0;joy 0;", 6);
+        fault("may hot 2;fee 0;joy 0;", 4);
+        fault("may nor 2;fee 0;joy 0;", 4);
     }
 
     private static void open() {
