@@ -8,6 +8,7 @@ public final class TextTest {
         open();
         force();
         values();
+        deepest();
         names();
         bounds();
         theRuleAtFirst();
@@ -221,6 +222,13 @@ public final class TextTest {
         value("((((1+1)*2+1)*2+1)*2+1)*2+1", 1 + 2 * (1 + 2 * (1 + 2 * (1 + 2 * 2))));
         value("0 or 0 and 0 = 0 + 0 * (0 or 1 and 1 = 1 + 0 * (1 or 1 and 1 = 1 + 2 * (3)))", 0);
         value("0 or 1 and 0 = 0 + 2 * (0 or 1 and 0 = 9 + 2 * (0 or 1 and 0 = 9 + 2 * (3)))", 1);
+    }
+
+    /** All that can wait at once waits: five levels in each of six E. */
+    private static void deepest() {
+        String level = "0or1and2=1+1*";
+        value((level + "(").repeat(5) + level + "1" + ")".repeat(5), 1);
+        value((level + "(").repeat(5) + level + "2" + ")".repeat(5), 0);
     }
 
     private static void names() {

@@ -741,14 +741,17 @@ public final class NeverLike {
     /** PAINTER, and what all KINDS under it share. */
     private static class Painter {
         final int number;
+        /** What a PAINTER asks for anything; the other KINDS go on from it. */
+        final int plainCosts;
 
         Painter(int number) {
             this.number = number;
+            plainCosts = 1 + number;
         }
 
         /** COSTS before they are bounded, as those of a KIND under this one go on from them. */
         int costs(int house, int f, int t) {
-            return 1 + number;
+            return plainCosts;
         }
 
         boolean will(int house, int f, int t) {
@@ -762,7 +765,7 @@ public final class NeverLike {
         }
 
         int costs(int house, int f, int t) {
-            return super.costs(house, f, t) * (house + 1);
+            return plainCosts * (house + 1);
         }
     }
 
@@ -772,7 +775,7 @@ public final class NeverLike {
         }
 
         int costs(int house, int f, int t) {
-            return super.costs(house, f, t) + 3;
+            return plainCosts + 3;
         }
 
         boolean will(int house, int f, int t) {
@@ -857,7 +860,7 @@ public final class NeverLike {
                     if (top < 1) {
                         return 0;
                     }
-                    stack[top - 1] = word == NEGATE ? -stack[top - 1] : truth(stack[top - 1] == 0);
+                    stack[top - 1] = word == NEGATE ? -stack[top - 1] : stack[top - 1] == 0 ? 1 : 0;
                 } else {
                     if (top < 2) {
                         return 0;
@@ -872,13 +875,13 @@ public final class NeverLike {
         private static int joined(int word, int a, int b) {
             switch (word) {
                 case OR:
-                    return truth(a != 0 || b != 0);
+                    return a != 0 || b != 0 ? 1 : 0;
                 case AND:
-                    return truth(a != 0 && b != 0);
+                    return a != 0 && b != 0 ? 1 : 0;
                 case LESS:
-                    return truth(a < b);
+                    return a < b ? 1 : 0;
                 case LIKE:
-                    return truth(a == b);
+                    return a == b ? 1 : 0;
                 case PLUS:
                     return a + b;
                 case MINUS:
@@ -886,10 +889,6 @@ public final class NeverLike {
                 default:
                     return a * b;
             }
-        }
-
-        private static int truth(boolean is) {
-            return is ? 1 : 0;
         }
     }
 
