@@ -1059,15 +1059,14 @@ public final class NeverLike {
 
         private void splitTape() {
             int count = 0;
-            int i = 0;
-            while (i < size) {
-                int end = endOf(i);
-                if (tape[i] != ' ' && tape[i] != '\n') {
+            int behind = 0;
+            for (int i = 0; i < size; i++) {
+                if (i >= behind && tape[i] != ' ' && tape[i] != '\n') {
+                    behind = endOf(i);
                     places[count] = i;
-                    tokens[count] = tokenOf(i, end);
+                    tokens[count] = tokenOf(i, behind);
                     count++;
                 }
-                i = end;
             }
             places[count] = size;
             tokens[count] = END;
