@@ -54,6 +54,15 @@ final class Check {
         }
     }
 
+    /** Gives each house the colour that it has in a town. */
+    static void put(NeverLike x, int town) {
+        int rest = town;
+        for (int i = 0; i < x.count(0); i++) {
+            x.set(0, i, rest % x.count(1));
+            rest /= x.count(1);
+        }
+    }
+
     static void end(String name) {
         System.out.println(name + ": " + asked + " asked, " + wrong + " wrong");
         if (wrong > 0) {

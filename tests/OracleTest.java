@@ -5,7 +5,9 @@ import java.util.Random;
 
 /** Random runs of calls, each answered a second time by the plainest model of the document that there is. */
 public final class OracleTest {
-    private static final int RUNS = 400;
+    private static final int RUNS = 600;
+    /** What later calls of one object answer is free. */
+    private static final int MOST_CALLS = 512;
 
     public static void main(String[] args) {
         for (int run = 0; run < RUNS && !Check.hasWrong(); run++) {
@@ -17,7 +19,7 @@ public final class OracleTest {
 
     private static void run(int seed) {
         Run run = new Run(seed);
-        for (int i = 0; i < 511 && !Check.hasWrong(); i++) {
+        while (run.calls < MOST_CALLS - 2 && !Check.hasWrong()) {
             run.call();
         }
     }
@@ -352,6 +354,7 @@ public final class OracleTest {
         final int[][] sheets = new int[4][];
         final int[] sorts = new int[4];
         final int most;
+        int calls = 0;
 
         Run(int seed) {
             random = new Random(seed);
@@ -737,6 +740,7 @@ public final class OracleTest {
         }
 
         void due(String call, long got, long want) {
+            calls++;
             Check.due(call, got, want);
         }
 
@@ -867,7 +871,7 @@ public final class OracleTest {
             }
             Written w = new Written(random);
             int fault = w.text().length() > 160 ? 0 : Stands.fault(w);
-            if (fault >= 0 || w.text().length() + tape > 160) {
+            if (fault >= 0 || w.text().length() + tape > 160 || calls + w.text().length() >= MOST_CALLS) {
                 return;
             }
             for (int i = 0; i < w.text().length(); i++) {
