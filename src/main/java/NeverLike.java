@@ -50,7 +50,6 @@ public final class NeverLike {
     private final int[] trial = new int[HOUSES_MOST];
 
     public NeverLike() {
-        now.lay(4, 3);
         for (int i = 0; i < RULE_AT_FIRST.length(); i++) {
             reader.put(RULE_AT_FIRST.charAt(i));
         }
@@ -580,7 +579,7 @@ public final class NeverLike {
 
     /** What a STEP costs that no COLOUR next to it hinders; UNLAWFUL if all the same it must not be. */
     private int price(int house, int f, int t) {
-        Text rule = texts[now.rule];
+        Text rule = ruleNow();
         if (rule == null || now.keepBit(house) == 1) {
             return UNLAWFUL;
         }
@@ -606,12 +605,16 @@ public final class NeverLike {
     }
 
     private int joyOf(int house) {
-        Text rule = texts[now.rule];
+        Text rule = ruleNow();
         if (rule == null || now.wish[house] == NONE) {
             return 0;
         }
         tellNames(house, now.colour[house], now.wish[house]);
         return bounded(rule.joy(names), JOY_MOST);
+    }
+
+    private Text ruleNow() {
+        return isWithin(now.rule, textCount - 1) ? texts[now.rule] : null;
     }
 
     private void tellNames(int house, int f, int t) {
@@ -658,6 +661,11 @@ public final class NeverLike {
         int keeps;
         int spring;
         int rule;
+
+        /** There are always HOUSES and COLOURS, by which it can be divided. */
+        Town() {
+            lay(4, 3);
+        }
 
         /** All as at first, but THE RULE. */
         void lay(int h, int c) {
@@ -1257,8 +1265,8 @@ public final class NeverLike {
         }
 
         private void meet(int from, int to) {
-            if (steps[to] == NONE) {
-                steps[to] = from == NONE ? 0 : steps[from] + 1;
+            if (town.isTown(to) && steps[to] == NONE) {
+                steps[to] = town.isTown(from) ? steps[from] + 1 : 0;
                 ahead[to] = from;
                 row[found] = to;
                 found++;
@@ -1297,7 +1305,7 @@ public final class NeverLike {
         }
 
         private void cheapen(int to, int costs) {
-            if (cost[to] == NONE || costs < cost[to]) {
+            if (town.isTown(to) && (cost[to] == NONE || costs < cost[to])) {
                 cost[to] = costs;
                 cheapened[to] = true;
             }
@@ -1372,10 +1380,10 @@ public final class NeverLike {
                 return NONE;
             }
             int at = to;
-            for (int k = length - 1; k > i; k--) {
+            for (int k = length - 1; k > i && town.isTown(at); k--) {
                 at = ahead[at];
             }
-            return stepBetween(ahead[at], at);
+            return town.isTown(at) ? stepBetween(ahead[at], at) : NONE;
         }
 
         private int stepBetween(int from, int to) {
@@ -1424,11 +1432,12 @@ public final class NeverLike {
 
         /** The row tells TOWNS of fewer STEPS first, so only among equally far ones the number is asked. */
         int mostWished() {
-            int best = start;
-            int most = wished(start);
+            int best = NONE;
+            int most = 0;
             for (int i = 0; i < found; i++) {
                 int have = wished(row[i]);
-                if (have > most || have == most && steps[row[i]] == steps[best] && row[i] < best) {
+                if (best == NONE || have > most
+                        || have == most && steps[row[i]] == steps[best] && row[i] < best) {
                     best = row[i];
                     most = have;
                 }
@@ -1438,7 +1447,7 @@ public final class NeverLike {
 
         /** Asked only of a TOWN that can be come to, and behind mostWorth(), which finds all CHEAPEST. */
         int worthOf(int number, int[] joys) {
-            int worth = -cost[number];
+            int worth = town.isTown(number) ? -cost[number] : 0;
             lookAt(number);
             for (int house = 0; house < town.houses; house++) {
                 if (colour[house] == town.wish[house]) {
@@ -1450,11 +1459,11 @@ public final class NeverLike {
 
         int mostWorth(int[] joys) {
             findCosts();
-            int best = start;
-            int most = worthOf(start, joys);
+            int best = NONE;
+            int most = 0;
             for (int i = 0; i < found; i++) {
                 int worth = worthOf(row[i], joys);
-                if (worth > most || worth == most && row[i] < best) {
+                if (best == NONE || worth > most || worth == most && row[i] < best) {
                     best = row[i];
                     most = worth;
                 }
